@@ -400,7 +400,7 @@ public final class MachineWitness {
         }
 
         void leave() {
-            depth--;
+            depth = Math.max(0, depth - 1);
             goTo(place() + 1);
         }
 

@@ -572,11 +572,13 @@ public final class MachineWitness {
                 FIELD = 15, SET_FIELD = 16, FAILURE = 17, TEST = 18, BY_B = 19, NEVER = 20;
         private static final int CHANGE_OP = 11, GET_FIELD_OP = 51, SET_FIELD_OP = 52;
 
+        // By shape, in the order above; that of NEVER is a range with nothing in it.
         private static final int[] LEAST = {
             0, 0, 0, 0, 0, 0, 0, -60, 0, 0, 0, 0, 0, 0, 0, 0, 0, -1, 0, 0, 1};
         private static final int[] MOST = {
             0, 7, 3, 3, 7, 39, 5, 60, 11, 7, 5, 11, 7, 4, 25, 8, 8, 29, 3, 0, 0};
 
+        // Of each op the shapes of a, b and c; five ops a line.
         private static final int[] OF_OPS = {
             N, ANY, ANY,  X, ANY, POWER,  F, ANY, POWER,  N, WHOLE_OP, N,  N, WHOLE_OP, N, // 0
             X, REAL_OP, X,  F, REAL_OP, F,  X, FUNCTION, X,  F, FUNCTION, F,  N, X, X, // 5

@@ -113,7 +113,10 @@ public final class ActBoundsTest {
 
     private static void ops() {
         for (int op : new int[] {L, -1, 19, 66, 67, M}) {
-            dueAct(new int[] {op, 0, 0, 0}, BAD);
+            for (int number : new int[] {L, -1, 0, 1, 2, 3, 5, 7, 39, M}) {
+                dueAct(new int[] {op, number, number, number}, BAD);
+                dueAct(new int[] {op, number, 0, 0}, BAD);
+            }
         }
         for (int op : new int[] {0, 18, 20, 65}) {
             dueAct(new int[] {op, 0, 0, 0}, 0);

@@ -361,8 +361,10 @@ public final class CallBoundsTest {
                 14, 1, 7, 0, 35, 0, 1, 1, 35, 0, 1, 2, 18, 3, 3, 0, 14, 5, 4, 0, 15, 4, 0, 0, 39, 3, 4, 1, 39, 3, 4, 2,
                 52, 0, 0, 3, 52, 0, 1, 3, 52, 0, 2, 3, 52, 3, 3, 3, 52, 5, 4, 3, 52, 0, 6, 3, 52, 0, 7, 3, 52, 0, 8, 3,
                 55, 7, 3, 0, 64, 0, 0, 0, 64, 0, 1, 0, 64, 0, 3, 0, 64, 0, 4, 0, 63, 0, 0, 0);
-        x.start(0, 0);
-        Check.due("filled", x.turn(0, 26), 1);
+        // by THREAD 2: those made later are of THREAD 0, which would let go of its own as it ends
+        x.start(2, 0);
+        Check.due("filled", x.turn(2, 28), 1);
+        Check.due("locked", x.thing(4, 2), 2);
         Check.due("a number", x.item(0, 11), 12);
         Check.dueBits("a double", x.item(1, 11), 5);
         Check.due("a part", x.item(4, 11), 2);

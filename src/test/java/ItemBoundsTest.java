@@ -120,6 +120,10 @@ public final class ItemBoundsTest {
                 }
                 Check.due("get", x.run(0, 0, 7, 5, 0, 1, 3, 5, 0, 2, 3, 5, 0, 20 + sort, register(sort), 5, 6), 0);
                 Check.due("got", sort < 6 ? x.number(0, 7) : sort == 6 ? x.small(0, 3) : x.real(0, 3), due);
+                if (sort >= 1) {
+                    Check.due("44", x.run(0, 44, 2, 5, 6), 0);
+                    Check.dueBits("44 of sort " + sort, x.real(0, 2), sort < 6 ? 1 : 0.25);
+                }
             }
         }
     }

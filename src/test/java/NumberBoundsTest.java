@@ -92,7 +92,10 @@ public final class NumberBoundsTest {
         dueJoined(4, 3, 1L << 31, 1, least);
         dueJoined(4, 4, least, -1, 0);
         dueJoined(4, 4, (1L << 32) + 7, (1L << 33) + 4, 3);
+        dueJoined(4, 3, -7, 2, -3);
         dueJoined(4, 8, LEAST - 1, (1L << 32) - 1, -1);
+        dueJoined(4, 8, -1, 1L << 31, least);
+        dueJoined(4, 8, -1, 1L << 32, 0);
         dueJoined(4, 9, 1L << 31, 1, least + 1);
         dueJoined(4, 10, -1, 1L << 31, most);
     }
@@ -373,7 +376,8 @@ public final class NumberBoundsTest {
     private static void bitsAtTheEnds() {
         double[] ends = {
             Double.MAX_VALUE, Math.nextDown(Double.MAX_VALUE), 0x1p1023, Double.MIN_VALUE, 2 * Double.MIN_VALUE,
-            Double.MIN_NORMAL, Math.nextDown(Double.MIN_NORMAL), Math.nextUp(Double.MIN_NORMAL), 1.0, Math.nextUp(1.0),
+            Double.MIN_NORMAL, Math.nextDown(Double.MIN_NORMAL), Math.nextUp(Double.MIN_NORMAL), 2 * Double.MIN_NORMAL,
+            4 * Double.MIN_NORMAL, 2 * Float.MIN_NORMAL, 4 * Float.MIN_NORMAL, 1.0, Math.nextUp(1.0),
             Math.nextDown(1.0), Float.MAX_VALUE, Math.nextDown(Float.MAX_VALUE), Float.MIN_VALUE, Float.MIN_NORMAL,
             Math.nextDown(Float.MIN_NORMAL), Math.nextUp(Float.MIN_NORMAL), Math.nextUp(1.0f), Math.nextDown(1.0f),
             Math.nextUp((double) Float.MAX_VALUE), 0x1.ffffffp127, Math.nextDown(0x1.ffffffp127), 0x1p-150,

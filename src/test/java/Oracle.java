@@ -851,7 +851,7 @@ final class Oracle {
         }
     }
 
-    /** See Pair: no ACT does this. */
+    /** See Inside: no ACT does this. */
     void share(int from, int k, int to, int j) {
         runners[to].t[j] = runners[from].t[k];
     }

@@ -1,5 +1,3 @@
-import java.lang.reflect.Field;
-
 /** The class and the Oracle side by side: every call goes to both, and their answers have to be alike. */
 final class Pair {
     final MachineWitness got = new MachineWitness();
@@ -56,24 +54,9 @@ final class Pair {
         return turn(thread, 1);
     }
 
-    /**
-     * A HOLD of one THREAD becomes that of another. No ACT does this, and without it no THREAD can come to
-     * WAIT for another one: so a test of WAITING has to reach inside.
-     */
     void share(int from, int k, int to, int j) {
         want.share(from, k, to, j);
-        share(got, from, k, to, j);
-    }
-
-    static void share(MachineWitness witness, int from, int k, int to, int j) {
-        try {
-            Field field = MachineWitness.class.getDeclaredField("strands");
-            field.setAccessible(true);
-            MachineWitness.Strand[] strands = (MachineWitness.Strand[]) field.get(witness);
-            strands[to].setT(j, strands[from].t(k));
-        } catch (ReflectiveOperationException e) {
-            throw new IllegalStateException(e);
-        }
+        Inside.share(got, from, k, to, j);
     }
 
     void compareThread(int s) {

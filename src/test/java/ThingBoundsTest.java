@@ -303,6 +303,10 @@ public final class ThingBoundsTest {
             Check.due("the item of sort " + sort, x.item(1, 11), x.item(0, 1));
             Check.due("it is not 0", x.item(1, 11) != 0 ? 1 : 0, 1);
             Check.due("the one beside it", x.item(1, 10), 0);
+            Check.due("47 of sort " + sort, x.run(0, 47, 4, 3, 0), 0);
+            for (int i = 0; i < 12; i++) {
+                Check.due("the copy's item " + i + " of sort " + sort, x.item(2, i), x.item(1, i));
+            }
         }
     }
 

@@ -271,7 +271,7 @@ public final class TurnPromisesTest {
         x.start(0, 0);
         x.start(1, 1);
         Check.due("0 LOCKS", x.turn(0, 2), 1);
-        Pair.share(x, 0, 0, 1, 0);
+        Inside.share(x, 0, 0, 1, 0);
         Check.due("1 comes to the lock", x.turn(1, 1), 1);
         Check.due("it does not WAIT yet", x.told(1, 6), -1);
         Check.due("1 WAITS", x.turn(1, 5), 2);
@@ -290,7 +290,7 @@ public final class TurnPromisesTest {
         Script.add(x, 3, 64, 0, 0, 0, 0, 0, 0, 0);
         x.start(1, 3);
         Check.due("1 LOCKS again", x.turn(1, 1), 1);
-        Pair.share(x, 0, 0, 2, 0);
+        Inside.share(x, 0, 0, 2, 0);
         x.start(2, 2);
         Check.due("OWNER: another's", x.turn(2, 1), -17);
         Check.due("that one's lock stays", x.thing(0, 2), 1);
@@ -300,10 +300,10 @@ public final class TurnPromisesTest {
         MachineWitness x = Script.with(0, 64, 0, 0, 0, 64, 0, 1, 0, 0, 0, 0, 0);
         Script.run(x, 0, 18, 0, 0, 0, 18, 1, 1, 0, 14, 2, 4, 0);
         // 0 LOCKS 0, then 1; 1 LOCKS 1, then 2; 2 LOCKS 2, then 0
-        Pair.share(x, 0, 1, 1, 0);
-        Pair.share(x, 0, 2, 1, 1);
-        Pair.share(x, 0, 2, 2, 0);
-        Pair.share(x, 0, 0, 2, 1);
+        Inside.share(x, 0, 1, 1, 0);
+        Inside.share(x, 0, 2, 1, 1);
+        Inside.share(x, 0, 2, 2, 0);
+        Inside.share(x, 0, 0, 2, 1);
         for (int s = 0; s < 3; s++) {
             x.start(s, 0);
             Check.due("the first lock", x.turn(s, 1), 1);
@@ -323,9 +323,9 @@ public final class TurnPromisesTest {
         MachineWitness y = Script.with(0, 64, 0, 0, 0, 64, 0, 1, 0, 0, 0, 0, 0);
         Script.add(y, 1, 64, 0, 0, 0, 0, 0, 0, 0);
         Script.run(y, 0, 18, 0, 0, 0, 18, 1, 1, 0);
-        Pair.share(y, 0, 0, 1, 1);
-        Pair.share(y, 0, 1, 1, 0);
-        Pair.share(y, 0, 0, 2, 0);
+        Inside.share(y, 0, 0, 1, 1);
+        Inside.share(y, 0, 1, 1, 0);
+        Inside.share(y, 0, 0, 2, 0);
         y.start(0, 0);
         y.start(1, 0);
         y.start(2, 1);
